@@ -45,7 +45,6 @@ public final class HotKeys {
     private int rounds;
     private int flips;
     private int passedOver;
-    private int moved;
 
     public HotKeys() {
         begin();
@@ -96,7 +95,11 @@ public final class HotKeys {
         smalls.meet(key, v);
         loads[place]++;
         rows++;
-        countRow(key);
+        roundRows++;
+        counters.take(key);
+        if (roundRows >= round) {
+            endRound();
+        }
         return place;
     }
 
@@ -146,7 +149,7 @@ public final class HotKeys {
         if (!keyStates.isSplit(key)) {
             return STATE;
         }
-        return joinBack(key);
+        return keyStates.bringBack(key);
     }
 
     public int tree(int key, int k) {
@@ -300,7 +303,7 @@ public final class HotKeys {
             case 3: return flips;
             case 4: return passedOver;
             case 5: return smalls.matches;
-            case 6: return moved;
+            case 6: return keyStates.moved;
             case 7: return timers.count;
             case 8: return timers.now;
             case 9: return log.kept;
@@ -329,7 +332,6 @@ public final class HotKeys {
         rounds = 0;
         flips = 0;
         passedOver = 0;
-        moved = 0;
         beginWork();
     }
 
@@ -403,14 +405,6 @@ public final class HotKeys {
         return NONE;
     }
 
-    private void countRow(int key) {
-        counters.take(key);
-        roundRows++;
-        if (roundRows >= round) {
-            endRound();
-        }
-    }
-
     private void endRound() {
         splitHotKeys();
         joinCoolKeys();
@@ -437,16 +431,10 @@ public final class HotKeys {
     private void joinCoolKeys() {
         for (int key = 0; key < KEYS; key++) {
             if (keyStates.isSplit(key) && counters.atMost(key) < threshold - slack) {
-                joinBack(key);
+                keyStates.bringBack(key);
                 flips++;
             }
         }
-    }
-
-    private int joinBack(int key) {
-        int carried = keyStates.bringBack(key);
-        moved += carried;
-        return carried;
     }
 
     private void ring(int key, int time) {
@@ -493,7 +481,7 @@ public final class HotKeys {
             }
         }
 
-        /** NOTHING is below every value, so no value falls behind it or is lesser than it. */
+        /** NOTHING is below all values, so LEAST alone must test for it. */
         private long folded(int fold, long state, int v, long before) {
             switch (kinds[fold]) {
                 case COUNT:
@@ -546,6 +534,7 @@ public final class HotKeys {
         private final int[] latestRows = new int[KEYS * MAX_PLACES];
         // One for a key is enough, for FALLS, which alone asks for it, keeps its keys whole.
         private final long[] latestValues = new long[KEYS];
+        private int moved;
 
         private KeyStates(Folds folds) {
             this.folds = folds;
@@ -555,6 +544,7 @@ public final class HotKeys {
             makeAllOne();
             Arrays.fill(latestRows, NONE);
             Arrays.fill(latestValues, NOTHING);
+            moved = 0;
         }
 
         private void makeAllOne() {
@@ -572,7 +562,7 @@ public final class HotKeys {
         }
 
         private static int cell(int key, int part, int fold) {
-            return slot(key, part) * MAX_FOLDS + fold;
+            return (key * MAX_PLACES + part) * MAX_FOLDS + fold;
         }
 
         private int partCount(int key) {
@@ -612,11 +602,11 @@ public final class HotKeys {
 
         /** Goes from part to part, not by the tree: the order of joins changes no answer. */
         private long joinedState(int key, int fold) {
-            long whole = partState(key, 0, fold);
+            long whole = states[cell(key, 0, fold)];
             int latest = latestRows[slot(key, 0)];
             for (int part = 1; part < partCounts[key]; part++) {
                 int row = latestRows[slot(key, part)];
-                whole = folds.joined(fold, whole, partState(key, part, fold), row > latest);
+                whole = folds.joined(fold, whole, states[cell(key, part, fold)], row > latest);
                 latest = Math.max(latest, row);
             }
             return whole;
@@ -658,12 +648,13 @@ public final class HotKeys {
                     carried++;
                 }
             }
-            // A fold's join reads the first part's row, so that is set behind all the joins.
+            // Each join reads the first part's latest row, so that is set after all of them.
             for (int fold = 0; fold < folds.count; fold++) {
                 states[cell(key, 0, fold)] = joinedState(key, fold);
             }
             latestRows[slot(key, 0)] = joinedLatestRow(key);
             partCounts[key] = 1;
+            moved += carried;
             return carried;
         }
 

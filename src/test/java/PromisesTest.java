@@ -26,6 +26,7 @@ public final class PromisesTest {
         promise8Place();
         promise9Split();
         promise10Back();
+        promise10LastKeyInMostParts();
         promise11Tree();
         promise12Counter();
         promise13Hot();
@@ -44,6 +45,8 @@ public final class PromisesTest {
         promise22Mark();
         promise23Restore();
         promise23RestoreFoldsGoOn();
+        promise23RestoreBringsAllKeys();
+        promise23RestoreSmallRows();
         promise23RestoreForgets();
         promise24Told();
         promise25Clear();
@@ -404,6 +407,13 @@ public final class PromisesTest {
         y.row(9, 0);
         y.row(9, 0);
         due("without folds", y.back(9), 1);
+        HotKeys w = withFolds(0);
+        w.split(9, 4);
+        rowsOf(w, 9, 8);
+        due("all parts", w.back(9), 3);
+        w.split(9, 2);
+        due("parts that were there before", w.back(9), 0);
+        due("all rows", w.state(0, 9), 8);
         HotKeys z = withFolds(5);
         z.split(1, 2);
         z.row(1, 10);
@@ -415,6 +425,27 @@ public final class PromisesTest {
         z.row(1, 13);
         z.row(1, 14);
         due("the later row leads again", z.state(0, 1), 14);
+    }
+
+    private static void promise10LastKeyInMostParts() {
+        HotKeys x = withFolds(0, 1, 2, 3, 4, 5);
+        x.shape(8, 200, 200, 0, 12);
+        due("split", x.split(99, 8), 1);
+        for (int v = 0; v < 16; v++) {
+            x.row(99, v);
+        }
+        due("a mark", x.mark(), 0);
+        due("moved", x.back(99), 7);
+        due("set", x.state(4, 99), 65535);
+        due("last", x.state(5, 99), 15);
+        due("split again", x.split(99, 8), 1);
+        x.timer(99, 1);
+        due("a timer", x.tick(1), 1);
+        due("count", x.log(0, 2), 16);
+        due("last", x.log(0, 7), 15);
+        due("restored", x.restore(0), 16);
+        due("sum", x.state(1, 99), 120);
+        due("last", x.state(5, 99), 15);
     }
 
     private static void promise11Tree() {
@@ -474,6 +505,8 @@ public final class PromisesTest {
         due("empty when the round ends", x.counter(2, 0), NONE);
         due("count of an empty one", x.counter(2, 1), 0);
         due("error of an empty one", x.counter(2, 2), 0);
+        due("error of the first one", x.counter(0, 2), 0);
+        due("count of the first one", x.counter(0, 1), 0);
     }
 
     private static void promise13Hot() {
@@ -562,9 +595,14 @@ public final class PromisesTest {
         due("moved by the round", x.told(6), 2);
         due("all rows in one", x.part(0, 1, 0), 5);
         x.split(50, 2);
+        x.split(0, 2);
+        x.split(99, 2);
+        due("key 0 is counted too", x.told(12), 4);
         rowsOf(x, 2, 10);
         due("one is empty: 0", x.parts(50), 1);
-        due("three backs", x.told(3), 3);
+        due("the least key", x.parts(0), 1);
+        due("the greatest key", x.parts(99), 1);
+        due("five backs", x.told(3), 5);
     }
 
     private static void promise13RoundPassesOver() {
@@ -700,6 +738,15 @@ public final class PromisesTest {
         due("forty", x.told(7), 40);
         due("all but one", x.tick(999999), 39);
         due("room again", x.timer(2, 1000000), 2);
+        HotKeys y = new HotKeys();
+        for (int i = 1; i <= 40; i++) {
+            due("timer in order " + i, y.timer(i, i), i);
+        }
+        due("half of them", y.tick(20), 20);
+        due("the 20th", y.log(0, 0), 20);
+        due("the others", y.tick(40), 20);
+        due("the 40th", y.log(0, 0), 40);
+        due("the first", y.log(39, 0), 1);
     }
 
     private static void promise20Tick() {
@@ -864,6 +911,37 @@ public final class PromisesTest {
         due("falls behind the held value", y.state(0, 1), 2);
     }
 
+    private static void promise23RestoreBringsAllKeys() {
+        HotKeys x = withFolds(1);
+        x.row(0, 5);
+        x.row(99, 6);
+        x.mark();
+        x.row(0, 7);
+        x.row(99, 8);
+        x.restore(0);
+        due("the least key", x.state(0, 0), 5);
+        due("the greatest key", x.state(0, 99), 6);
+    }
+
+    private static void promise23RestoreSmallRows() {
+        HotKeys x = new HotKeys();
+        x.mark();
+        x.small(1, 10);
+        x.timer(1, 5);
+        x.mark();
+        x.restore(0);
+        due("none", x.told(13), 0);
+        x.small(2, 20);
+        x.timer(2, 6);
+        x.restore(1);
+        due("at the home of 1", x.copies(1), 1);
+        due("not at that of 2", x.copies(2), 0);
+        x.row(1, 3);
+        due("its weight", x.out(), 30);
+        due("its timer", x.tick(5), 1);
+        due("its key", x.log(0, 0), 1);
+    }
+
     private static void promise23RestoreForgets() {
         HotKeys x = withFolds(0);
         x.shape(3, 8, 3, 2, 2);
@@ -954,6 +1032,14 @@ public final class PromisesTest {
         y.row(1, 4);
         due("no value before", y.state(0, 1), 0);
         isNew("cleared twice", cleared(cleared(y)));
+        HotKeys z = withFolds(5);
+        rowsOf(z, 1, 30);
+        z.clear();
+        z.fold(5, true);
+        z.split(1, 4);
+        z.row(2, 9);
+        z.row(1, 8);
+        due("the rows before are forgotten", z.state(0, 1), 8);
     }
 
     private static HotKeys cleared(HotKeys x) {
