@@ -1,7 +1,24 @@
 /** Prints each answer that is not the one that is due, and counts them. */
 final class Check {
+    private static final long LONGEST_MILLIS = 10 * 60 * 1000;
+
     private int wrong;
     private int asked;
+
+    /** A call that does not end must fail the test, not hold it up for ever. */
+    Check() {
+        Thread watch = new Thread(() -> {
+            try {
+                Thread.sleep(LONGEST_MILLIS);
+            } catch (InterruptedException e) {
+                return;
+            }
+            System.out.println("a call does not end");
+            Runtime.getRuntime().halt(1);
+        });
+        watch.setDaemon(true);
+        watch.start();
+    }
 
     void due(String call, long got, long want) {
         asked++;

@@ -622,6 +622,25 @@ public final class PromiseEdgesTest extends SentenceTests {
         due("its error", x.counter(3, 2), 0);
     }
 
+    @Sentence(at = "Promise 12", says = "its KEY (what = 0; NONE: it is empty)")
+    private static void p12NoneWhenARoundEnded() {
+        HotKeys x = new HotKeys();
+        x.shape(4, 8, 8, 0, 2);
+        for (int n = 0; n < 8; n++) {
+            x.row(n % 3, 0);
+        }
+        for (int i = 0; i < 2; i++) {
+            due("key of " + i, x.counter(i, 0), NONE);
+            due("count of " + i, x.counter(i, 1), 0);
+            due("error of " + i, x.counter(i, 2), 0);
+        }
+        x.row(5, 0);
+        due("key of 0", x.counter(0, 0), 5);
+        due("key of 1", x.counter(1, 0), NONE);
+        due("count of 1", x.counter(1, 1), 0);
+        due("error of 1", x.counter(1, 2), 0);
+    }
+
     @Sentence(at = "Promise 12", says = "COUNT (1), ERROR (2).")
     private static void p12CountAndError() {
         HotKeys x = new HotKeys();
@@ -700,6 +719,19 @@ public final class PromiseEdgesTest extends SentenceTests {
         due("least count 3", x.hot(9), 1);
         due("of any other key", x.hot(0), 1);
         due("of any other key", x.hot(99), 1);
+    }
+
+    @Sentence(at = "Promise 13",
+            says = "or, without a counter and if none is empty, the least COUNT is T or more)")
+    private static void p13WithAThresholdOf1() {
+        HotKeys x = new HotKeys();
+        x.shape(4, 32, 1, 0, 2);
+        due("at first", x.hot(9), 0);
+        x.row(1, 0);
+        due("one row", x.hot(1), 2);
+        due("one is empty", x.hot(9), 0);
+        x.row(2, 0);
+        due("none is empty", x.hot(9), 1);
     }
 
     @Sentence(at = "Promise 13", says = "Whether a KEY came T times at least in this ROUND")
@@ -1062,6 +1094,19 @@ public final class PromiseEdgesTest extends SentenceTests {
     }
 
     @Sentence(at = "Promise 21", says = "of a FOLD that there was not NOTHING")
+    private static void p21WithoutFolds() {
+        HotKeys x = new HotKeys();
+        x.row(5, 3);
+        x.timer(5, 3);
+        x.tick(3);
+        due("key", x.log(0, 0), 5);
+        due("time", x.log(0, 1), 3);
+        for (int what = 2; what < 8; what++) {
+            due("what " + what, x.log(0, what), NOTHING);
+        }
+    }
+
+    @Sentence(at = "Promise 21", says = "of a FOLD that there was not NOTHING")
     private static void p21FoldsThatThereWereNotInAnOldPlaceOfTheLog() {
         HotKeys x = withFolds(COUNT, COUNT, COUNT, COUNT, COUNT, COUNT);
         for (int i = 1; i <= 65; i++) {
@@ -1284,6 +1329,27 @@ public final class PromiseEdgesTest extends SentenceTests {
     }
 
     @Sentence(at = "Promise 25", says = "All is as at the beginning")
+    private static void p25WhatIsToldOfRoundsAndPartsIsNoughtAgain() {
+        HotKeys x = withFolds(COUNT);
+        x.shape(4, 8, 4, 0, 2);
+        rows(x, 1, 16);
+        due("moved", x.back(1), 2);
+        due("rounds", x.told(2), 2);
+        due("flips", x.told(3), 1);
+        due("moved", x.told(6), 2);
+        x.clear();
+        x.fold(CHAIN, true);
+        rows(x, 1, 32);
+        due("passed over", x.told(4), 1);
+        due("rounds", x.told(2), 1);
+        due("flips", x.told(3), 0);
+        due("moved", x.told(6), 0);
+        x.clear();
+        due("passed over", x.told(4), 0);
+        due("rounds", x.told(2), 0);
+    }
+
+    @Sentence(at = "Promise 25", says = "All is as at the beginning")
     private static void p25ShapeIsAsAtTheBeginning() {
         HotKeys x = withFolds(COUNT);
         x.shape(8, 8, 1, 0, 12);
@@ -1333,5 +1399,18 @@ public final class PromiseEdgesTest extends SentenceTests {
         y.fold(FALLS, true);
         y.row(1, 4);
         due("no value was folded before it", y.state(0, 1), 0);
+    }
+
+    @Sentence(at = "Promise 25", says = "All is as at the beginning")
+    private static void p25RowsBeforeAreNotLater() {
+        HotKeys x = withFolds(LAST);
+        rows(x, 1, 30);
+        x.clear();
+        x.fold(LAST, true);
+        x.split(1, 4);
+        x.row(2, 9);
+        x.row(1, 8);
+        due("row 1 is of part 3", x.part(0, 1, 3), 8);
+        due("part 0 is empty", x.state(0, 1), 8);
     }
 }

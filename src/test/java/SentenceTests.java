@@ -96,12 +96,16 @@ abstract class SentenceTests {
     /** A row of a key that is split; rows of key 98 come ahead of it till its part is due. */
     static void rowOfPart(HotKeys x, int key, int part, int v) {
         int q = x.parts(key);
-        int n = x.told(0);
-        while (partOfRow(n, q) != part) {
+        int first = x.told(0);
+        // Of 24 rows one at least is of each part, so a key without that part ends the search.
+        for (int n = first; n < first + 24 && q > part; n++) {
+            if (partOfRow(n, q) == part) {
+                x.row(key, v);
+                return;
+            }
             x.row(98, 0);
-            n++;
         }
-        x.row(key, v);
+        due("key " + key + " has a part " + part, q, part + 1);
     }
 
     /** A past in which there is something of all that can be; less than 60 calls. */

@@ -1628,6 +1628,34 @@ public final class TermsEdgesTest extends SentenceTests {
     }
 
     @Sentence(at = "Terms 5", says = "its STATES are EMPTY then, in all PARTS")
+    private static void statesAreEmptyInEightPartsAndOfOneKeyAlone() {
+        HotKeys x = calm(8, COUNT);
+        x.split(96, 8);
+        x.split(99, 8);
+        rows(x, 95, 3);
+        rows(x, 97, 3);
+        for (int part = 0; part < 8; part++) {
+            rowOfPart(x, 96, part, 0);
+            rowOfPart(x, 99, part, 0);
+        }
+        long of98 = x.state(0, 98);
+        x.timer(96, 1);
+        x.timer(99, 2);
+        x.tick(1);
+        due("96", x.state(0, 96), 0);
+        due("95", x.state(0, 95), 3);
+        due("97", x.state(0, 97), 3);
+        due("99", x.state(0, 99), 8);
+        x.tick(2);
+        due("99", x.state(0, 99), 0);
+        due("98", x.state(0, 98), of98);
+        for (int part = 0; part < 8; part++) {
+            due("part " + part + " of 96", x.part(0, 96, part), 0);
+            due("part " + part + " of 99", x.part(0, 99, part), 0);
+        }
+    }
+
+    @Sentence(at = "Terms 5", says = "its STATES are EMPTY then, in all PARTS")
     private static void chainAndFallsBeginAnew() {
         HotKeys x = withFolds(CHAIN, FALLS);
         x.row(1, 5);
@@ -1813,6 +1841,25 @@ public final class TermsEdgesTest extends SentenceTests {
         due("the first one", y.log(39, 0), 0);
     }
 
+    @Sentence(at = "Terms 6", says = "timers that wait, TIME")
+    private static void marksHoldTheTimesOfTimers() {
+        HotKeys x = new HotKeys();
+        x.mark();
+        x.timer(1, 50);
+        x.timer(2, 60);
+        x.mark();
+        x.restore(0);
+        x.timer(3, 20);
+        x.timer(4, 30);
+        x.restore(1);
+        due("none at 49", x.tick(49), 0);
+        due("one at 50", x.tick(50), 1);
+        due("its key", x.log(0, 0), 1);
+        due("its time", x.log(0, 1), 50);
+        due("one at 60", x.tick(60), 1);
+        due("its time", x.log(0, 1), 60);
+    }
+
     @Sentence(at = "Terms 6", says = "timers that wait, TIME, how many rows came")
     private static void marksHoldTime() {
         HotKeys x = new HotKeys();
@@ -1864,6 +1911,33 @@ public final class TermsEdgesTest extends SentenceTests {
         x.restore(0);
         due("out as held", x.out(), 30);
         due("matches as held", x.told(5), 1);
+    }
+
+    @Sentence(at = "Terms 6", says = "RESTORED all these are as held")
+    private static void restoredAgainAllIsAsHeld() {
+        HotKeys x = withFolds(SUM, LAST);
+        x.small(1, 10);
+        x.timer(1, 5);
+        x.tick(2);
+        x.row(1, 3);
+        x.mark();
+        for (int i = 0; i < 3; i++) {
+            x.small(1, 1);
+            x.small(2, 1);
+            x.row(1, 7);
+            x.timer(2, 4);
+            x.tick(9);
+            due("restored", x.restore(0), 1);
+            due("sum", x.state(0, 1), 3);
+            due("last", x.state(1, 1), 3);
+            due("small rows", x.told(13), 1);
+            due("small rows of key 2", x.copies(2), 0);
+            due("timers", x.told(7), 1);
+            due("TIME", x.told(8), 2);
+            due("rows", x.told(0), 1);
+            due("out", x.out(), 30);
+            due("matches", x.told(5), 1);
+        }
     }
 
     @Sentence(at = "Terms 6", says = "RESTORED all these are as held; each KEY is one, at HOME")
@@ -1984,7 +2058,8 @@ public final class TermsEdgesTest extends SentenceTests {
         x.back(1);
         int moved = x.told(6);
         due("parts moved", moved, 2);
-        rows(x, 1, 8);
+        rows(x, 1, 12);
+        due("rows of parts that are split when it is restored", x.part(0, 1, 2) > 0 ? 1 : 0, 1);
         x.restore(0);
         due("rounds", x.told(2), 3);
         due("flips", x.told(3), 2);
